@@ -36,6 +36,7 @@ public final class PromiseTest {
         test.path();
         test.pathCosts();
         test.pathTies();
+        test.longCadence();
         test.all();
         test.edit();
         test.group();
@@ -156,6 +157,12 @@ public final class PromiseTest {
         dueFilm("   ", Check.fault(3, 1));
         dueFilm("Width 1;", Check.fault(0, 1));
         dueFilm("widths 1;", Check.fault(0, 1));
+        dueFilm("widtha 1;", Check.fault(0, 1));
+        dueFilm("widthz 1;", Check.fault(0, 1));
+        dueFilm("width{1;", Check.fault(5, 1));
+        dueFilm("width`1;", Check.fault(5, 1));
+        dueFilm("width/1;", Check.fault(5, 1));
+        dueFilm("width:1;", Check.fault(5, 1));
         dueFilm("wid th 1;", Check.fault(0, 1));
         dueFilm("frame 1 2;", Check.fault(0, 1));
         dueFilm("width", Check.fault(5, 1));
@@ -212,6 +219,7 @@ public final class PromiseTest {
     private void rules() {
         dueRules("cadence 2 3 4 5 2 3;", 1);
         dueRules("cadence 2;cadence 3;cadence 4;cadence 5;", 4);
+        dueRules("edit 1;cadence 2;still 1;cadence 3;slack 1;cadence 4;mate 1;measure sum;cadence 5;", 4);
         CadenceDesk desk = carried();
         Check.rules(desk, "cadence 2;cadence 3 3;");
         desk.force(1);
@@ -591,6 +599,32 @@ public final class PromiseTest {
         // Behind a last step, too, a field of the same parity cannot go on.
         Check.rules(desk, "cadence 2;edit 0;");
         due("edits", desk.all(1), 1);
+    }
+
+    /** Six places of five steps: the most that a path can have to choose from. */
+    private void longCadence() {
+        StringBuilder film = new StringBuilder("width 1;");
+        for (int f = 0; f < 18; f++) {
+            film.append("frame ").append(5 * f).append(' ').append(5 * f + 3).append(';');
+        }
+        CadenceDesk desk = told(film.toString());
+        Check.rules(desk, "cadence 5 5 5 5 5 4;edit 2;");
+        due("carry(0, 0)", desk.carry(0, 0), 87);
+        due("nothing costs", desk.all(0), 0);
+        for (int i = 0; i < 87; i++) {
+            int inRound = i % 29;
+            due("path(" + i + ", 0)", desk.path(i, 0), inRound / 5);
+            due("path(" + i + ", 1)", desk.path(i, 1), inRound % 5);
+            due("path(" + i + ", 2)", desk.path(i, 2), inRound % 5);
+        }
+        // The sixth frame has two fields left, then a frame of five comes: its last step was cut with one more.
+        desk.cut(27, 2);
+        due("an edit", desk.all(0), 2);
+        due("behind the cut", desk.edit(0), 27);
+        due("its place", desk.path(27, 0), 0);
+        due("its step", desk.path(27, 1), 0);
+        due("frames", desk.all(6), 18);
+        due("restored", desk.restored(), 18);
     }
 
     // ---- 17
