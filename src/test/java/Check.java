@@ -1,3 +1,8 @@
+import java.lang.reflect.InvocationTargetException;
+import java.lang.reflect.Method;
+import java.util.Arrays;
+import java.util.Comparator;
+import java.util.List;
 import java.util.NoSuchElementException;
 
 /** What the tests share: telling a desk a text, and counting the answers that are wrong. */
@@ -6,6 +11,7 @@ final class Check {
     static final int THROWS = Integer.MIN_VALUE;
 
     private final String name;
+    private String sentence = "";
     private int wrong = 0;
     private int asked = 0;
 
@@ -17,12 +23,56 @@ final class Check {
         asked++;
         if (got != want) {
             wrong++;
-            System.out.println(name + ": " + call + " answered " + got + ", due is " + want);
+            System.out.println(name + sentence + ": " + call + " answered " + got + ", due is " + want);
         }
     }
 
     void due(String call, boolean got, boolean want) {
         due(call, got ? 1 : 0, want ? 1 : 0);
+    }
+
+    void due(String call, List<Integer> got, List<Integer> want) {
+        asked++;
+        if (!got.equals(want)) {
+            wrong++;
+            System.out.println(name + sentence + ": " + call + " answered " + got + ", due is " + want);
+        }
+    }
+
+    /**
+     * Runs every method of a test that is named by its promise (p, its number, what it says),
+     * so that none is forgotten; what one throws is a wrong answer.
+     */
+    void runPromises(Object test) {
+        Method[] methods = test.getClass().getDeclaredMethods();
+        Arrays.sort(methods, Comparator.comparing(Method::getName));
+        int run = 0;
+        for (Method method : methods) {
+            if (method.getName().matches("p\\d\\d_.*")) {
+                runOne(test, method);
+                run++;
+            }
+        }
+        System.out.println(name + ": " + run + " sentences");
+        end();
+    }
+
+    private void runOne(Object test, Method method) {
+        sentence = " " + method.getName();
+        int before = asked;
+        try {
+            method.invoke(test);
+        } catch (InvocationTargetException e) {
+            wrong++;
+            System.out.println(name + sentence + ": threw " + e.getCause());
+        } catch (IllegalAccessException e) {
+            throw new IllegalStateException(e);
+        }
+        if (asked == before) {
+            wrong++;
+            System.out.println(name + sentence + ": asked nothing");
+        }
+        sentence = "";
     }
 
     boolean isWrong() {
