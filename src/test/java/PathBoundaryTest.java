@@ -1,3 +1,6 @@
+import java.util.ArrayList;
+import java.util.List;
+
 /**
  * Promises 16 to 27 and the third part of the terms (paths, their cost, the path, groups, found
  * frames, guess, restored, anew): a test for each sentence that names a boundary.
@@ -254,6 +257,12 @@ public final class PathBoundaryTest {
     void p16_theFirstTwoHaveNoFieldTwoAhead() {
         CadenceDesk desk = Desks.tops(3, "cadence 2;edit 40;still 10;");
         duePath(desk, COST, 0, 40, 50);
+        CadenceDesk dark = Desks.told("width 1;frame 0 0;", "cadence 2;");
+        for (int parity = 0; parity < 2; parity++) {
+            dark.carry(0, parity);
+            duePath(dark, COST, 0, 0);
+            due("all(0)", dark.all(0), 0);
+        }
     }
 
     void p16_ofAnotherParityNothingStandsStill() {
@@ -288,6 +297,62 @@ public final class PathBoundaryTest {
         duePath(desk, STEP, 0, 1, 2, 0, 1, 2, 0, 1, 2);
         duePath(desk, SEEN, 0, 1, 2, 0, 0, 1, 0, 1, 2);
         duePath(desk, EDIT, 0, 0, 0, 0, 1, 0, 0, 0, 0);
+    }
+
+    void p16_ofTheseAnEditLateIfGoingOnIsToALesserPlace() {
+        // By 2 3, of three, two, two and three fields: the third frame edits, though the second could,
+        // to the end of a 3; it goes on to place 0 instead.
+        CadenceDesk desk = Desks.told("width 1;frame 1 2;frame 60 61;frame 5 8;frame 99 98;", "cadence 2 3;cadence 3 2 2;");
+        desk.force(1);
+        desk.carry(0, 0);
+        desk.force(0);
+        duePath(desk, PLACE, 1, 1, 1, 0, 0, 0, 0, 1, 1, 1);
+        duePath(desk, STEP, 0, 1, 2, 0, 1, 0, 1, 0, 1, 2);
+        duePath(desk, EDIT, 0, 0, 0, 0, 0, 1, 0, 0, 0, 0);
+    }
+
+    void p16_sixPlacesOfFiveStepsAreTheMost() {
+        CadenceDesk desk = Desks.carried(Desks.longFilm(), "cadence 5 5 5 5 5 5;");
+        due("all(0)", desk.all(0), 0);
+        due("all(1)", desk.all(1), 0);
+        for (int i = 0; i < 90; i++) {
+            due("path(" + i + ", 0)", desk.path(i, PLACE), i / 5 % 6);
+            due("path(" + i + ", 1)", desk.path(i, STEP), i % 5);
+            due("path(" + i + ", 2)", desk.path(i, SEEN), i % 5);
+        }
+    }
+
+    void p16_whatWasAskedBeforeDoesNotMatter() {
+        String rules = "cadence 5 5 5 5 5 5;cadence 3 2;";
+        for (int from : new int[] {0, 29, 44, 45, 60, 80, 88}) {
+            CadenceDesk asked = Desks.carried(Desks.longFilm(), rules);
+            CadenceDesk other = Desks.carried(Desks.longFilm(), rules);
+            asked.all(0);
+            asked.cut(from, 1);
+            other.cut(from, 1);
+            check.due("cut(" + from + ", 1)", Snapshot.brief(asked), Snapshot.brief(other));
+            check.due("its edits", edits(asked), edits(Desks.carried(Desks.longFilm(), rules), from));
+            asked.force(1);
+            other.force(1);
+            asked.guess(0);
+            check.due("by another cadence", Snapshot.brief(asked), Snapshot.brief(other));
+            asked.undo();
+            other.undo();
+            check.due("undone", Snapshot.brief(asked), Snapshot.brief(other));
+        }
+    }
+
+    private static List<Integer> edits(CadenceDesk desk) {
+        List<Integer> fields = new ArrayList<>();
+        for (int i = 0; i < desk.all(1); i++) {
+            fields.add(desk.edit(i));
+        }
+        return fields;
+    }
+
+    private static List<Integer> edits(CadenceDesk desk, int from) {
+        desk.cut(from, 1);
+        return edits(desk);
     }
 
     void p16_ofTheseTheLeastPlaceThenStep() {
@@ -531,6 +596,14 @@ public final class PathBoundaryTest {
         due("known(0)", desk.known(0), 0);
     }
 
+    void p21_darknessIsNotKnownOfItself() {
+        CadenceDesk desk = Desks.carried("width 1;frame 1 2;", "cadence 2;");
+        desk.set(0, 0, 0);
+        desk.set(1, 0, 0);
+        due("found(0, 0, 0)", desk.found(0, 0, 0), 0);
+        due("known(0)", desk.known(0), NONE);
+    }
+
     void p21_theFirstOfThoseThatAre() {
         CadenceDesk desk = Desks.carried("width 1;frame 1 2;frame 30 40;frame 1 2;frame 30 40;", "cadence 2;");
         int[] known = {0, 1, 0, 1};
@@ -562,6 +635,15 @@ public final class PathBoundaryTest {
         due("all", desk.restored(), 3);
         desk.cut(0, 9);
         due("all cut", desk.restored(), 0);
+    }
+
+    void p22_darknessIsNotRestoredOfItself() {
+        CadenceDesk desk = Desks.told("width 1;frame 0 0;frame 50 60;", "cadence 2;");
+        due("no fields", desk.restored(), 0);
+        desk.carry(0, 0);
+        due("both", desk.restored(), 2);
+        desk.cut(0, 2);
+        due("the other alone", desk.restored(), 1);
     }
 
     void p22_allOfTwenty() {
@@ -684,6 +766,16 @@ public final class PathBoundaryTest {
         due("costs(3)", desk.costs(3), 0);
         due("guess(0)", desk.guess(0), 1);
         Check.rules(desk, "cadence 3;cadence 3;cadence 3;cadence 3;");
+        due("guess(0)", desk.guess(0), 0);
+    }
+
+    void p24_oneCadenceAlone() {
+        CadenceDesk desk = Desks.told(FOUR);
+        desk.carry(1, 0);
+        due("guess(1), asked first", desk.guess(1), 1);
+        desk.cut(0, 1);
+        due("guess(2), asked first", desk.guess(2), 1);
+        due("guess(1)", desk.guess(1), 1);
         due("guess(0)", desk.guess(0), 0);
     }
 
@@ -835,6 +927,19 @@ public final class PathBoundaryTest {
         check.due("a bottom first", desk.isClean(0), false);
         desk.carry(0, 0);
         check.due("a top first", desk.isClean(0), true);
+    }
+
+    void p26_theFirstFieldsParityAlone() {
+        CadenceDesk desk = Desks.told("width 1;frame 30 7;", "cadence 3;cadence 2;");
+        desk.carry(0, 1);
+        desk.doubled(0, 1);
+        // Bottom 7, then bottom 7, top 30, bottom 7 of one frame; anew: top 7, bottom 7, top 30, bottom 7.
+        due("frames", desk.all(6), 2);
+        due("anew", desk.anew(1, 0, NONE), 4);
+        for (int i = 0; i < 4; i++) {
+            due("sample of " + i, desk.anew(1, i, 0), Check.fieldOf(desk, i, 0));
+        }
+        check.due("isClean(1)", desk.isClean(1), false);
     }
 
     void p26_oneSampleOrOneFieldMakesTheDifference() {

@@ -336,6 +336,39 @@ public final class TextBoundaryTest {
         dueFilmFault("width 1;framez 1 2;", 8, NO_TOKEN);
     }
 
+    /** Each letter of a word in turn is another one. */
+    private static String[] misspelt(String word) {
+        String[] words = new String[word.length()];
+        for (int i = 0; i < words.length; i++) {
+            words[i] = word.substring(0, i) + (word.charAt(i) == 'x' ? 'y' : 'x') + word.substring(i + 1);
+        }
+        return words;
+    }
+
+    void p03_wordsAreSpeltInFull() {
+        for (String word : misspelt("width")) {
+            dueFilmFault(word + " 1;frame 1 2;", 0, NO_TOKEN);
+        }
+        for (String word : misspelt("frame")) {
+            dueFilmFault("width 1;" + word + " 1 2;", 8, NO_TOKEN);
+            dueFilmFault("width 1;frame 1 2;" + word + " 1 2;", 18, NO_TOKEN);
+        }
+    }
+
+    void p04_wordsAreSpeltInFull() {
+        for (String line : new String[] {"cadence 2", "slack 1", "edit 1", "still 1", "mate 1", "measure sum"}) {
+            String word = line.substring(0, line.indexOf(' '));
+            for (String other : misspelt(word)) {
+                dueRulesFault("cadence 2;" + other + line.substring(word.length()) + ";", 10, NO_TOKEN);
+            }
+        }
+        for (String measure : new String[] {"sum", "most", "many"}) {
+            for (String other : misspelt(measure)) {
+                dueRulesFault("measure " + other + ";", 8, NO_TOKEN);
+            }
+        }
+    }
+
     void p03_digitsAloneMakeNumbers() {
         dueFilmFault("width/1;", 5, NO_TOKEN);
         dueFilmFault("width:1;", 5, NO_TOKEN);
