@@ -31,6 +31,14 @@ final class Check {
         due(call, got ? 1 : 0, want ? 1 : 0);
     }
 
+    void due(String call, String got, String want) {
+        asked++;
+        if (!got.equals(want)) {
+            wrong++;
+            System.out.println(name + sentence + ": " + call + " is '" + got + "', due is '" + want + "'");
+        }
+    }
+
     void due(String call, List<Integer> got, List<Integer> want) {
         asked++;
         if (!got.equals(want)) {
@@ -40,7 +48,7 @@ final class Check {
     }
 
     /**
-     * Runs every method of a test that is named by its promise (p, its number, what it says),
+     * Runs every method of a test that is named by its promise (p, its number, what it says) or rule,
      * so that none is forgotten; what one throws is a wrong answer.
      */
     void runPromises(Object test) {
@@ -48,7 +56,7 @@ final class Check {
         Arrays.sort(methods, Comparator.comparing(Method::getName));
         int run = 0;
         for (Method method : methods) {
-            if (method.getName().matches("p\\d\\d_.*")) {
+            if (method.getName().matches("(p|rule)\\d\\d_.*")) {
                 runOne(test, method);
                 run++;
             }

@@ -1,4 +1,4 @@
-/** Each promise of the document by hand, numbered as there. */
+/** Each promise of the document by hand: ordinary inputs, edges, wrong inputs. */
 public final class PromiseTest {
     private static final int NONE = CadenceDesk.NONE;
     private static final int FAR = Integer.MAX_VALUE;
@@ -15,41 +15,7 @@ public final class PromiseTest {
 
     public static void main(String[] args) {
         PromiseTest test = new PromiseTest();
-        test.newObject();
-        test.feed();
-        test.film();
-        test.filmFaults();
-        test.filmStays();
-        test.rules();
-        test.rulesFaults();
-        test.frame();
-        test.cadence();
-        test.force();
-        test.carry();
-        test.cut();
-        test.doubled();
-        test.noise();
-        test.set();
-        test.undo();
-        test.field();
-        test.apart();
-        test.path();
-        test.pathCosts();
-        test.pathTies();
-        test.longCadence();
-        test.all();
-        test.edit();
-        test.group();
-        test.mating();
-        test.found();
-        test.known();
-        test.restored();
-        test.costs();
-        test.guess();
-        test.anew();
-        test.isClean();
-        test.count();
-        test.check.end();
+        test.check.runPromises(test);
     }
 
     private void due(String call, long got, long want) {
@@ -93,7 +59,7 @@ public final class PromiseTest {
     }
 
     // ---- 1
-    private void newObject() {
+    void p01_newObject() {
         CadenceDesk desk = new CadenceDesk();
         int[] counts = {0, 0, 0, 1, 0, 0, 40, 10, 0, 0, 0, 0};
         for (int what = 0; what < counts.length; what++) {
@@ -111,7 +77,7 @@ public final class PromiseTest {
     }
 
     // ---- 2
-    private void feed() {
+    void p02_feed() {
         CadenceDesk desk = new CadenceDesk();
         for (int i = 1; i <= 45; i++) {
             due("feed " + i, desk.feed(1, 2, 3, 4, 5), 20 * i);
@@ -130,7 +96,7 @@ public final class PromiseTest {
     }
 
     // ---- 3
-    private void film() {
+    void p03_film() {
         dueFilm(FILM, 4);
         dueFilm("width 1;frame 1 2;", 1);
         dueFilm("width1;frame1 2;", 1);
@@ -152,7 +118,7 @@ public final class PromiseTest {
         due("film(1) of an empty tape", desk.film(1), NONE);
     }
 
-    private void filmFaults() {
+    void p03_filmFaults() {
         dueFilm("", Check.fault(0, 1));
         dueFilm("   ", Check.fault(3, 1));
         dueFilm("Width 1;", Check.fault(0, 1));
@@ -194,7 +160,7 @@ public final class PromiseTest {
         dueFilm("width 1;" + "frame 1 2;".repeat(20) + "fram", Check.fault(208, 1));
     }
 
-    private void filmStays() {
+    void p03_filmStays() {
         CadenceDesk desk = carried();
         Check.rules(desk, "cadence 2 3;cadence 2;slack 4;");
         desk.force(1);
@@ -216,7 +182,7 @@ public final class PromiseTest {
     }
 
     // ---- 4
-    private void rules() {
+    void p04_rules() {
         dueRules("cadence 2 3 4 5 2 3;", 1);
         dueRules("cadence 2;cadence 3;cadence 4;cadence 5;", 4);
         dueRules("edit 1;cadence 2;still 1;cadence 3;slack 1;cadence 4;mate 1;measure sum;cadence 5;", 4);
@@ -251,7 +217,7 @@ public final class PromiseTest {
         due("count(9)", desk.count(9), 1);
     }
 
-    private void rulesFaults() {
+    void p04_rulesFaults() {
         dueRules("", Check.fault(0, 1));
         dueRules("slack 3;", Check.fault(8, 1));
         dueRules("slack 3; \n", Check.fault(10, 1));
@@ -289,7 +255,7 @@ public final class PromiseTest {
     }
 
     // ---- 5
-    private void frame() {
+    void p05_frame() {
         CadenceDesk desk = told(FILM);
         int[][] frames = {{1, 2, 3, 4}, {10, 20, 30, 40}, {50, 60, 70, 80}, {90, 91, 92, 93}};
         for (int f = 0; f < 4; f++) {
@@ -311,7 +277,7 @@ public final class PromiseTest {
     }
 
     // ---- 6
-    private void cadence() {
+    void p06_cadence() {
         CadenceDesk desk = new CadenceDesk();
         Check.rules(desk, "cadence 2 3 4 5 2 3;cadence 4;");
         due("cadence(0, -1)", desk.cadence(0, NONE), 6);
@@ -327,7 +293,7 @@ public final class PromiseTest {
     }
 
     // ---- 7
-    private void force() {
+    void p07_force() {
         CadenceDesk desk = told(FILM);
         Check.rules(desk, "cadence 2;cadence 3;");
         due("force(1)", desk.force(1), 0);
@@ -343,7 +309,7 @@ public final class PromiseTest {
     }
 
     // ---- 8
-    private void carry() {
+    void p08_carry() {
         CadenceDesk desk = new CadenceDesk();
         due("no film", desk.carry(0, 0), NONE);
         Check.film(desk, FILM);
@@ -369,7 +335,7 @@ public final class PromiseTest {
     }
 
     // ---- 9
-    private void cut() {
+    void p09_cut() {
         CadenceDesk desk = carried();
         due("cut(3, 2)", desk.cut(3, 2), 8);
         dueFields("cut", desk, 1, 3, 10, 70, 50, 92, 90, 92);
@@ -390,7 +356,7 @@ public final class PromiseTest {
     }
 
     // ---- 10
-    private void doubled() {
+    void p10_doubled() {
         CadenceDesk desk = carried();
         due("doubled(1, 2)", desk.doubled(1, 2), 12);
         dueFields("doubled", desk, 1, 3, 10, 3, 10, 30, 10, 70, 50, 92, 90, 92);
@@ -412,7 +378,7 @@ public final class PromiseTest {
     }
 
     // ---- 11
-    private void noise() {
+    void p11_noise() {
         CadenceDesk desk = told(FILM);
         due("no fields", desk.noise(1, 1), NONE);
         desk.carry(0, 0);
@@ -451,7 +417,7 @@ public final class PromiseTest {
     }
 
     // ---- 12
-    private void set() {
+    void p12_set() {
         CadenceDesk desk = carried();
         due("set(4, 1, 99)", desk.set(4, 1, 99), 20);
         due("it is", Check.fieldOf(desk, 4, 1), 99);
@@ -472,7 +438,7 @@ public final class PromiseTest {
     }
 
     // ---- 13
-    private void undo() {
+    void p13_undo() {
         CadenceDesk desk = carried();
         due("undo()", desk.undo(), 0);
         due("no fields", desk.count(2), 0);
@@ -505,7 +471,7 @@ public final class PromiseTest {
     }
 
     // ---- 14
-    private void field() {
+    void p14_field() {
         CadenceDesk desk = carried();
         due("field(0, 0)", Check.fieldOf(desk, 0, 0), 1);
         due("field(9, 1)", Check.fieldOf(desk, 9, 1), 93);
@@ -518,7 +484,7 @@ public final class PromiseTest {
     }
 
     // ---- 15
-    private void apart() {
+    void p15_apart() {
         CadenceDesk desk = told("width 3;frame 1 50 7 9 40 7;");
         desk.carry(0, 0);
         due("sum", desk.apart(0, 1), 18);
@@ -533,7 +499,7 @@ public final class PromiseTest {
     }
 
     // ---- 16
-    private void path() {
+    void p16_path() {
         CadenceDesk desk = parted(PARTED_RULES);
         int[][] rows = {
             {1, 0, 0, 0, 0, 0, 1, 0}, {1, 1, 1, 0, 0, 0, 1, 0}, {1, 2, 2, 0, 0, 0, 0, 0},
@@ -553,7 +519,7 @@ public final class PromiseTest {
         due("without fields", new CadenceDesk().path(0, 0), NONE);
     }
 
-    private void pathCosts() {
+    void p16_pathCosts() {
         // By cadence 2 a third field alike stands still; by cadence 3 one that is not alike costs how far.
         CadenceDesk desk = told("width 1;frame 10 20;frame 13 50;");
         Check.rules(desk, "cadence 2;still 7;edit 999;");
@@ -579,7 +545,7 @@ public final class PromiseTest {
         due("edits are cheap", desk.all(0), 1);
     }
 
-    private void pathTies() {
+    void p16_pathTies() {
         CadenceDesk desk = told("width 1;frame 1 2;frame 30 40;");
         Check.rules(desk, "cadence 2 2;edit 0;still 0;");
         desk.carry(0, 0);
@@ -602,7 +568,7 @@ public final class PromiseTest {
     }
 
     /** Six places of five steps: the most that a path can have to choose from. */
-    private void longCadence() {
+    void p16_longCadence() {
         StringBuilder film = new StringBuilder("width 1;");
         for (int f = 0; f < 18; f++) {
             film.append("frame ").append(5 * f).append(' ').append(5 * f + 3).append(';');
@@ -628,7 +594,7 @@ public final class PromiseTest {
     }
 
     // ---- 17
-    private void all() {
+    void p17_all() {
         CadenceDesk desk = parted(PARTED_RULES);
         int[] answers = {40, 1, 4, 2, 0, 0, 4};
         for (int what = 0; what < answers.length; what++) {
@@ -650,7 +616,7 @@ public final class PromiseTest {
     }
 
     // ---- 18
-    private void edit() {
+    void p18_edit() {
         CadenceDesk desk = parted(PARTED_RULES);
         due("edit(0)", desk.edit(0), 5);
         due("edit(1)", desk.edit(1), NONE);
@@ -668,7 +634,7 @@ public final class PromiseTest {
     }
 
     // ---- 19
-    private void group() {
+    void p19_group() {
         CadenceDesk desk = parted(PARTED_RULES);
         int[][] groups = {{0, 3, 0, NONE}, {3, 2, 0, NONE}, {5, 2, 0, NONE}, {7, 3, 0, NONE}};
         for (int g = 0; g < groups.length; g++) {
@@ -684,7 +650,7 @@ public final class PromiseTest {
         due("without fields", new CadenceDesk().group(0, 0), -2);
     }
 
-    private void mating() {
+    void p19_mating() {
         CadenceDesk desk = carried();
         Check.rules(desk, "cadence 2 3;mate 999;");
         desk.cut(3, 1);
@@ -714,7 +680,7 @@ public final class PromiseTest {
     }
 
     // ---- 20
-    private void found() {
+    void p20_found() {
         CadenceDesk desk = parted(PARTED_RULES);
         int[][] frames = {{1, 2}, {60, 61}, {5, 8}, {99, 98}};
         for (int f = 0; f < 4; f++) {
@@ -739,7 +705,7 @@ public final class PromiseTest {
     }
 
     // ---- 21
-    private void known() {
+    void p21_known() {
         CadenceDesk desk = told("width 1;frame 7 8;frame 1 2;frame 7 8;");
         desk.carry(0, 0);
         due("known(0)", desk.known(0), 0);
@@ -757,7 +723,7 @@ public final class PromiseTest {
     }
 
     // ---- 22
-    private void restored() {
+    void p22_restored() {
         due("no film", new CadenceDesk().restored(), NONE);
         CadenceDesk desk = told("width 1;frame 10 20;frame 40 50;frame 70 80;");
         due("no fields", desk.restored(), 0);
@@ -783,7 +749,7 @@ public final class PromiseTest {
     }
 
     // ---- 23
-    private void costs() {
+    void p23_costs() {
         CadenceDesk desk = parted(PARTED_RULES);
         due("costs(0)", desk.costs(0), 40);
         due("costs(1)", desk.costs(1), 0);
@@ -799,7 +765,7 @@ public final class PromiseTest {
     }
 
     // ---- 24
-    private void guess() {
+    void p24_guess() {
         CadenceDesk desk = parted(PARTED_RULES);
         due("guess(0)", desk.guess(0), 1);
         due("guess(1)", desk.guess(1), 0);
@@ -828,7 +794,7 @@ public final class PromiseTest {
     }
 
     // ---- 25
-    private void anew() {
+    void p25_anew() {
         CadenceDesk desk = parted(PARTED_RULES);
         int[] samples = {1, 2, 60, 61, 60, 8, 5, 98, 99, 98};
         due("how many", desk.anew(0, 0, NONE), 10);
@@ -860,7 +826,7 @@ public final class PromiseTest {
     }
 
     // ---- 26
-    private void isClean() {
+    void p26_isClean() {
         CadenceDesk desk = parted(PARTED_RULES);
         check.due("isClean(1)", desk.isClean(1), true);
         check.due("isClean(0)", desk.isClean(0), false);
@@ -879,7 +845,7 @@ public final class PromiseTest {
     }
 
     // ---- 27
-    private void count() {
+    void p27_count() {
         CadenceDesk desk = parted("cadence 2;cadence 3 2 2;slack 1;edit 2;still 3;mate 4;measure many;");
         desk.force(1);
         desk.cut(0, 1);

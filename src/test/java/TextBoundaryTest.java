@@ -400,6 +400,90 @@ public final class TextBoundaryTest {
         dueFilmFault("width 1;frame 1 " + "0".repeat(800) + "1;", 16, NO_TOKEN);
     }
 
+    // ---- 3 and 4: each of the 256 bytes, at places where another token or a blank may stand
+
+    private static boolean isBlank(int b) {
+        return b == 32 || b == 10;
+    }
+
+    private static boolean isDigit(int b) {
+        return b >= '0' && b <= '9';
+    }
+
+    void p03_eachByteAheadOfAFilm() {
+        for (int b = 0; b < 256; b++) {
+            dueFilm((char) b + SHORT_FILM, isBlank(b) ? 1 : Check.fault(0, NO_TOKEN));
+        }
+    }
+
+    void p03_eachByteBehindAFilm() {
+        for (int b = 0; b < 256; b++) {
+            dueFilm(SHORT_FILM + (char) b, isBlank(b) ? 1 : Check.fault(18, NO_TOKEN));
+        }
+    }
+
+    void p03_eachByteBehindASample() {
+        for (int b = 0; b < 256; b++) {
+            int want = isBlank(b) || isDigit(b) ? 1 : Check.fault(b == ';' ? 18 : 17, NO_TOKEN);
+            dueFilm("width 1;frame 1 2" + (char) b + ";", want);
+        }
+    }
+
+    void p03_eachByteBehindTheWidth() {
+        for (int b = 0; b < 256; b++) {
+            int fault = isDigit(b) ? Check.fault(6, BOUNDS) : Check.fault(b == ';' ? 8 : 7, NO_TOKEN);
+            dueFilm("width 1" + (char) b + ";frame 1 2;", isBlank(b) ? 1 : fault);
+        }
+    }
+
+    void p03_eachByteInsideAWord() {
+        for (int b = 0; b < 256; b++) {
+            dueFilmFault("wid" + (char) b + "th 1;frame 1 2;", 0, NO_TOKEN);
+            dueFilmFault("width 1;fra" + (char) b + "me 1 2;", 8, NO_TOKEN);
+        }
+    }
+
+    void p04_eachByteAheadOfRules() {
+        for (int b = 0; b < 256; b++) {
+            dueRules((char) b + "cadence 2;", isBlank(b) ? 1 : Check.fault(0, NO_TOKEN));
+        }
+    }
+
+    void p04_eachByteBehindRules() {
+        for (int b = 0; b < 256; b++) {
+            dueRules("cadence 2;" + (char) b, isBlank(b) ? 1 : Check.fault(10, NO_TOKEN));
+        }
+    }
+
+    void p04_eachByteBehindANumber() {
+        for (int b = 0; b < 256; b++) {
+            int fault = isDigit(b) ? Check.fault(8, BOUNDS) : Check.fault(b == ';' ? 10 : 9, NO_TOKEN);
+            dueRules("cadence 2" + (char) b + ";", isBlank(b) ? 1 : fault);
+        }
+    }
+
+    void p04_eachByteInsideAWord() {
+        for (int b = 0; b < 256; b++) {
+            dueRulesFault("cad" + (char) b + "ence 2;", 0, NO_TOKEN);
+            dueRulesFault("cadence 2;sla" + (char) b + "ck 2;", 10, NO_TOKEN);
+            dueRulesFault("measure su" + (char) b + "m;cadence 2;", 8, NO_TOKEN);
+        }
+    }
+
+    void p04_blanksPartTokensAndMeanNothingElse() {
+        CadenceDesk desk = new CadenceDesk();
+        due("rules", Check.rules(desk, "\n cadence2 3\n4;slack1;edit\n\n2 ;\nmeasure many;mate 03;"), 1);
+        int[] counts = {1, 0, 1, 2, 10, 3, 2};
+        for (int i = 0; i < counts.length; i++) {
+            due("count(" + (3 + i) + ")", desk.count(3 + i), counts[i]);
+        }
+        due("cadence(0, -1)", desk.cadence(0, NONE), 3);
+        dueRulesFault("ca dence 2;", 0, NO_TOKEN);
+        dueRulesFault("cadence 2;slack 1 2;", 18, NO_TOKEN);
+        dueRules("cadence 2;slack 12;", 1);
+        dueRulesFault("measuresum;cadence 2;", 0, NO_TOKEN);
+    }
+
     // ---- 3: film, its bounds
 
     void p03_widthIsOneToSix() {
